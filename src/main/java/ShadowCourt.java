@@ -411,36 +411,30 @@ public final class ShadowCourt {
   }
 
   private static class Hat extends Kind {
-    @Override
     int number() {
       return KIND_HAT;
     }
 
-    @Override
     int higher() {
       return 2;
     }
   }
 
   private static final class Plume extends Hat {
-    @Override
     int number() {
       return KIND_PLUME;
     }
 
-    @Override
     int higher() {
       return super.higher() + 2;
     }
   }
 
   private static final class Thin extends Kind {
-    @Override
     int number() {
       return KIND_THIN;
     }
 
-    @Override
     int shade(int high, int tile, int hour) {
       int length = length(high, hour);
       int last = hour < NOON ? tile - length : tile + length;
@@ -449,12 +443,10 @@ public final class ShadowCourt {
   }
 
   private static final class Child extends Kind {
-    @Override
     int number() {
       return KIND_CHILD;
     }
 
-    @Override
     int shade(int high, int tile, int hour) {
       int length = length(high, hour);
       return west(tile, length) | east(tile, length);
