@@ -70,7 +70,7 @@ public final class ShadowCourt {
   public int party(int party, int what) {
     if (!now.has(party)) return UNKNOWN;
     switch (what) {
-      case 0: return now.kinds[party].number();
+      case 0: return now.kinds[party].number;
       case 1: return now.high[party];
       case 2: return now.tile[party];
       case 3: return now.shade(party, now.hour);
@@ -266,32 +266,26 @@ public final class ShadowCourt {
     }
   }
 
+  /** In one piece: with a step between, the calls would go deeper than LANGUAGE.md lets them. */
   public long digest() {
     long h = 1217;
-    for (int party = 0; party < now.parties; party++) h = withParty(h, party);
-    if (!now.isNone()) h = withCourt(h);
+    for (int party = 0; party < now.parties; party++) {
+      for (int what = 0; what <= 6; what++) h = h * 31 + party(party, what);
+      h = h * 31 + covers(party, 3);
+      h = h * 31 + covers(party, 10);
+    }
+    if (!now.isNone()) {
+      for (int tile = 0; tile < TILES; tile++) {
+        for (int what = 0; what <= 2; what++) h = h * 31 + tile(tile, what);
+      }
+      for (int hour = 0; hour < HOURS; hour++) h = h * 31 + found(0, 1, hour);
+      for (int what = 0; what <= 1; what++) h = h * 31 + game(0, 1, 2, what);
+      for (int what = 0; what <= 1; what++) h = h * 31 + odds(0, 1, 4, 3, what);
+      h = h * 31 + docket(0);
+      for (int what = 10; what <= 14; what++) h = h * 31 + docket(what);
+    }
     for (int place = 0; place < page.length; place++) h = h * 31 + page.letters[place];
     for (int what = 0; what <= 10; what++) h = h * 31 + count(what);
-    return h;
-  }
-
-  private long withParty(long before, int party) {
-    long h = before;
-    for (int what = 0; what <= 6; what++) h = h * 31 + party(party, what);
-    h = h * 31 + covers(party, 3);
-    return h * 31 + covers(party, 10);
-  }
-
-  private long withCourt(long before) {
-    long h = before;
-    for (int tile = 0; tile < TILES; tile++) {
-      for (int what = 0; what <= 2; what++) h = h * 31 + tile(tile, what);
-    }
-    for (int hour = 0; hour < HOURS; hour++) h = h * 31 + found(0, 1, hour);
-    for (int what = 0; what <= 1; what++) h = h * 31 + game(0, 1, 2, what);
-    for (int what = 0; what <= 1; what++) h = h * 31 + odds(0, 1, 4, 3, what);
-    h = h * 31 + docket(0);
-    for (int what = 10; what <= 14; what++) h = h * 31 + docket(what);
     return h;
   }
 
@@ -317,11 +311,11 @@ public final class ShadowCourt {
   }
 
   private static boolean isTile(int tile) {
-    return within(tile, 0, TILES - 1);
+    return tile >= 0 && tile < TILES;
   }
 
   private static boolean isHour(int hour) {
-    return within(hour, 0, HOURS - 1);
+    return hour >= 0 && hour < HOURS;
   }
 
   /** THE PAGE: what may become a COURT. */
@@ -363,7 +357,7 @@ public final class ShadowCourt {
         case 't': return new Thin();
         case 'c': return new Child();
         case 'u': return new Plume();
-        default: return new Kind();
+        default: return new Kind(KIND_PARTY, 0);
       }
     }
 
@@ -384,12 +378,12 @@ public final class ShadowCourt {
 
   /** How a KIND of PARTY casts its SHADOW; this one is KIND 0, that all others are, too. */
   private static class Kind {
-    int number() {
-      return KIND_PARTY;
-    }
+    final int number;
+    final int higher;
 
-    int higher() {
-      return 0;
+    Kind(int number, int higher) {
+      this.number = number;
+      this.higher = higher;
     }
 
     int shade(int high, int tile, int hour) {
@@ -398,41 +392,42 @@ public final class ShadowCourt {
     }
 
     final int length(int high, int hour) {
-      return (high + higher()) * Math.abs(hour - NOON) / 3;
+      int fromNoon = hour < NOON ? NOON - hour : hour - NOON;
+      return (high + higher) * fromNoon / 3;
     }
 
     static int west(int tile, int length) {
-      return (1 << tile) - (1 << Math.max(0, tile - length));
+      int last = tile > length ? tile - length : 0;
+      return (1 << tile) - (1 << last);
     }
 
     static int east(int tile, int length) {
-      return (1 << Math.min(TILES, tile + 1 + length)) - (1 << tile + 1);
+      int last = tile + length < TILES ? tile + length : TILES - 1;
+      return (1 << last + 1) - (1 << tile + 1);
     }
   }
 
   private static class Hat extends Kind {
-    int number() {
-      return KIND_HAT;
+    static final int HIGHER = 2;
+
+    Hat() {
+      this(KIND_HAT, HIGHER);
     }
 
-    int higher() {
-      return 2;
+    Hat(int number, int higher) {
+      super(number, higher);
     }
   }
 
   private static final class Plume extends Hat {
-    int number() {
-      return KIND_PLUME;
-    }
-
-    int higher() {
-      return super.higher() + 2;
+    Plume() {
+      super(KIND_PLUME, HIGHER + 2);
     }
   }
 
   private static final class Thin extends Kind {
-    int number() {
-      return KIND_THIN;
+    Thin() {
+      super(KIND_THIN, 0);
     }
 
     int shade(int high, int tile, int hour) {
@@ -443,8 +438,8 @@ public final class ShadowCourt {
   }
 
   private static final class Child extends Kind {
-    int number() {
-      return KIND_CHILD;
+    Child() {
+      super(KIND_CHILD, 0);
     }
 
     int shade(int high, int tile, int hour) {
@@ -528,7 +523,11 @@ public final class ShadowCourt {
     }
 
     int shade(int party, int at) {
-      return kinds[party].shade(high[party], tile[party], at);
+      return has(party) ? kinds[party].shade(high[party], tile[party], at) : 0;
+    }
+
+    int shadeIf(int party, int isHigh, int onTile, int at) {
+      return has(party) ? kinds[party].shade(isHigh, onTile, at) : 0;
     }
 
     int worthOf(int tiles) {
@@ -592,7 +591,7 @@ public final class ShadowCourt {
     private boolean isAsSeen(Court court, int party, int high) {
       for (int number = 0; number < court.seen; number++) {
         if (court.seenParty[number] != party) continue;
-        int shade = court.kinds[party].shade(high, court.tile[party], court.seenHour[number]);
+        int shade = court.shadeIf(party, high, court.tile[party], court.seenHour[number]);
         if ((shade >> court.seenTile[number] & 1) != court.seenCovers[number]) return false;
       }
       return true;
@@ -605,7 +604,7 @@ public final class ShadowCourt {
       int fewest = HIGHEST + 1;
       for (int hour = 0; hour < HOURS; hour++) {
         for (int high = 1; high <= HIGHEST; high++) {
-          shades[high] = court.kinds[party].shade(high, court.tile[party], hour);
+          shades[high] = court.shadeIf(party, high, court.tile[party], hour);
         }
         for (int tile = 0; tile < TILES; tile++) {
           int left = leftAtWorst(heights, tile);
@@ -649,8 +648,8 @@ public final class ShadowCourt {
 
     private void weigh(Court court, int a, int b, int hour) {
       for (int tile = 0; tile < TILES; tile++) {
-        worthA[tile] = court.worthOf(court.kinds[a].shade(court.high[a], tile, hour));
-        worthB[tile] = court.worthOf(court.kinds[b].shade(court.high[b], tile, hour));
+        worthA[tile] = court.worthOf(court.shadeIf(a, court.high[a], tile, hour));
+        worthB[tile] = court.worthOf(court.shadeIf(b, court.high[b], tile, hour));
       }
     }
 
