@@ -238,14 +238,14 @@ public final class ShadowCourt {
 
   public int image() {
     if (now.isNone()) return STATE;
-    kept.copyOf(now);
+    kept.keepAllOf(now);
     isKept = true;
     return kept.hoursInAll();
   }
 
   public int restore() {
     if (!isKept) return STATE;
-    now.copyOf(kept);
+    now.keepAllOf(kept);
     return now.hoursInAll();
   }
 
@@ -448,7 +448,7 @@ public final class ShadowCourt {
     }
   }
 
-  /** All that an IMAGE keeps; without PARTIES there is no COURT. */
+  /** THE COURT, or an IMAGE of it; without PARTIES there is no COURT. */
   private static final class Court {
     int parties;
     final Kind[] kinds = new Kind[MOST_PARTIES];
@@ -480,9 +480,8 @@ public final class ShadowCourt {
       seen = 0;
     }
 
-    void copyOf(Court other) {
-      parties = other.parties;
-      for (int party = 0; party < parties; party++) kinds[party] = other.kinds[party];
+    /** PARTIES and their KINDS never change in one COURT, and an IMAGE is of no other. */
+    void keepAllOf(Court other) {
       copy(other.high, high);
       copy(other.tile, tile);
       copy(other.worth, worth);
